@@ -609,7 +609,7 @@ public final class RainOrgan {
         setup.setPegs(plan.gutters, now);
     }
 
-    /** Whether a row of rain, its seconds as figures to the base 4, plays the tune; it ends at the first wrong second. */
+    /** Whether rain plays the tune; its seconds are the row's figures to the base 4. The first wrong second ends it. */
     private boolean soundsAsTheTune(int row) {
         Flow flow = concert.flow;
         flow.dryUp();
@@ -952,15 +952,11 @@ public final class RainOrgan {
         private int now;
         private int gutters;
 
+        /** Nothing but the offers is asked for before one was made: the first offer sets the rest. */
         void begin(int settingsNow, int manyGutters) {
             now = settingsNow;
             gutters = manyGutters;
-            number = 0;
-            far = 0;
-            asNear = 0;
             offers = 0;
-            fewestNumber = 0;
-            fewestChanges = 0;
         }
 
         void offer(int candidate, int distance) {

@@ -8,14 +8,20 @@ public final class RoomTest {
     public static void main(String[] args) {
         com.sun.management.ThreadMXBean bean = (com.sun.management.ThreadMXBean) ManagementFactory.getThreadMXBean();
         RainOrgan x = Check.told(ORGAN);
+        long[] text = text();
         for (int i = 0; i < 3; i++) {
-            everyCall(x);
+            everyCall(x, text);
         }
-        long before = bean.getCurrentThreadAllocatedBytes();
-        long probe = bean.getCurrentThreadAllocatedBytes();
-        everyCall(x);
-        long after = bean.getCurrentThreadAllocatedBytes();
-        Check.due("bytes made by all calls", after - probe - (probe - before), 0);
+        long least = Long.MAX_VALUE;
+        long before = 0;
+        // the least of some tries: the machine's own work may fall into one of them
+        for (int i = 0; i < 5; i++) {
+            before = bean.getCurrentThreadAllocatedBytes();
+            long probe = bean.getCurrentThreadAllocatedBytes();
+            everyCall(x, text);
+            least = Math.min(least, bean.getCurrentThreadAllocatedBytes() - probe - (probe - before));
+        }
+        Check.due("bytes made by all calls", least, 0);
         RainOrgan[] kept = new RainOrgan[100];
         before = bean.getCurrentThreadAllocatedBytes();
         for (int i = 0; i < kept.length; i++) {
@@ -26,8 +32,22 @@ public final class RoomTest {
         Check.finish("RoomTest");
     }
 
-    private static int everyCall(RainOrgan x) {
-        int sum = 0;
+    private static long[] text() {
+        long[] row = new long[(ORGAN.length() + 7) / 8];
+        for (int i = 0; i < 8 * row.length; i++) {
+            row[i / 8] = row[i / 8] << 8 | (i < ORGAN.length() ? ORGAN.charAt(i) : ' ');
+        }
+        return row;
+    }
+
+    private static int everyCall(RainOrgan x, long[] text) {
+        int sum = x.end(0);
+        for (long v : text) {
+            sum += x.feed(v);
+        }
+        if (x.organ() < 0) {
+            throw new IllegalStateException("the text was not taken");
+        }
         for (int a = -1; a <= 3; a++) {
             sum += x.feed(a) + x.end(a) + x.fault() + x.rule(a) + x.block(a, false) + x.settings(a) + x.rain(a) + x.water(a);
             sum += x.loud(a) + x.tune(a) + x.far(a) + x.all(a) + x.woken(a) + x.heard(a) + x.blocked(a) + x.frozen(a);

@@ -13,7 +13,16 @@ public final class TextTest {
         Check.finish("TextTest");
     }
 
+    /** The fault that is due, also if more of them stand behind it. */
     private static void fails(String text, int place, int fault) {
+        failsAlone(text, place, fault);
+        if (place < text.length()) {
+            failsAlone(text + " !", place, fault);
+            failsAlone(text + ";;", place, fault);
+        }
+    }
+
+    private static void failsAlone(String text, int place, int fault) {
         RainOrgan x = new RainOrgan();
         Check.feed(x, text);
         Check.due("organ() of '" + text + "'", x.organ(), -10 - place);
@@ -107,6 +116,27 @@ public final class TextTest {
         fails("roofs 1 0;", 0, 2);
         fails("roo 1 0;", 0, 2);
         fails("roofpeg", 0, 2);
+        // of each name another first sign, another last one, one more, one less
+        String[] lines = {"roof 1 0;", "peg ground ground;", "spout 0 slate;", "rain 1;", "tune 1;", "sleep 0 0 1;", "wear 1;"};
+        for (String line : lines) {
+            int space = line.indexOf(' ');
+            fails("x" + line.substring(1), 0, 2);
+            fails(line.substring(0, space - 1) + "x" + line.substring(space), 0, 2);
+            fails("x" + line, 0, 2);
+            fails(line.substring(0, space) + "x" + line.substring(space), 0, 2);
+            fails(line.substring(1), 0, 2);
+            fails(line.substring(0, space - 1) + line.substring(space), 0, 2);
+        }
+        for (String cup : new String[] {"slate", "tip", "leak", "each", "join", "frozen"}) {
+            fails("spout 0 x" + cup.substring(1) + " 1 1;", 8, 2);
+            fails("spout 0 " + cup.substring(0, cup.length() - 1) + "x 1 1;", 8, 2);
+            fails("spout 0 " + cup + "s 1 1;", 8, 2);
+        }
+        for (String way : new String[] {"gutter", "spout", "ground"}) {
+            fails("peg x" + way.substring(1) + " 1;", 4, 2);
+            fails("peg " + way.substring(0, way.length() - 1) + "x 1;", 4, 2);
+            fails("peg " + way + "s 1;", 4, 2);
+        }
         fails("ground;", 0, 2);
         fails("wear 1;gutter", 7, 2);
         fails("roof", 4, 2);
