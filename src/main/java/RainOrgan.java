@@ -149,7 +149,7 @@ public final class RainOrgan {
             case 2: return hasSize(kind) ? plan.sizes[s] : 0;
             case 3: return kind == JOIN ? plan.others[s] : NONE;
             case 4: return hand.held[s];
-            case 5: return hand.hits[s];
+            case 5: return (int) hand.hits[s];
             case 6: return hand.isBroken(plan, s) ? 1 : 0;
             case 7: return hand.onTheWay[s];
             default: return BAD;
@@ -708,7 +708,8 @@ public final class RainOrgan {
     private static final class Flow {
         final int[] held = new int[SPOUTS];
         final int[] counts = new int[SPOUTS];
-        final int[] hits = new int[SPOUTS];
+        /** Long, because joined cups may pass the same drops round for as long as the organ is used. */
+        final long[] hits = new long[SPOUTS];
         final int[] onTheWay = new int[SPOUTS];
         final int[] louds = new int[SPOUTS];
         int second;

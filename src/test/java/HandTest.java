@@ -14,6 +14,7 @@ public final class HandTest {
         joinBothWays();
         frozen();
         wear();
+        wearByDropsThatGoRound();
         cups();
         dry();
         Check.finish("HandTest");
@@ -319,6 +320,41 @@ public final class HandTest {
         Check.due("no wear", x.spout(0, 6), 0);
         Check.due("count(1)", x.count(1), 0);
         Check.due("rain(1)", x.rain(1), 1);
+    }
+
+    /** Drops that two cups tip into one another hit them again and again: more often than an int can tell. */
+    private static void wearByDropsThatGoRound() {
+        RainOrgan x = Check.told("roof 9 0;".repeat(4) + "peg spout 0 spout 0;spout 0 join 1 1;spout 1 join 1 0;wear 999;");
+        x.sheet(0, 0, 12);
+        for (int i = 0; i < 12; i++) {
+            x.lay(0, i, 9);
+        }
+        x.read(0, 0, 0, 4);
+        Check.dues("hits", spouts(x, 5, 2), 6 * 324, 4 * 324);
+        Check.dues("broken", spouts(x, 6, 2), 1, 1);
+        // each SPOUT sounds in three SECONDS, 1, 1 and 2 times 324, the last being that behind which it is BROKEN
+        Check.dues("water", waters(x), 4, 4 * 324, 0, 0, 4 * 324, 8 * 324);
+        // SPOUT 0 gets 1, 1, 2, 2, 3, 3 .. times 324 drops: 1, 2, 4, 6, 9, 12 .. times 324 in all
+        readTimes(x, 420);
+        Check.due("hits, an int still", x.spout(0, 5), 324 * 2522 * 2523);
+        readTimes(x, 15);
+        Check.dues("water", waters(x), 5224, 5224 * 324, 0, 0, 5224 * 324, 8 * 324);
+        Check.due("count(1)", x.count(1), 2);
+        Check.dues("broken", spouts(x, 6, 2), 1, 1);
+        Check.due("rain(9)", x.rain(9), 0);
+        Check.dues("loud", new int[] {x.loud(0), x.loud(1)}, 0, 0);
+        x.keep(0);
+        Check.due("dry()", x.dry(), 5225);
+        Check.due("broken when dry", x.count(1), 0);
+        Check.due("back(0)", x.back(0), 5225);
+        Check.due("broken as kept", x.count(1), 2);
+        Check.due("rain(0)", x.rain(0), 0);
+    }
+
+    private static void readTimes(RainOrgan x, int times) {
+        for (int i = 0; i < times; i++) {
+            x.read(0, 0, 0, 12);
+        }
     }
 
     private static void cups() {
