@@ -5,15 +5,35 @@ final class Check {
     static final int BAD = -1, STATE = -2, FULL = -3, NONE = -4;
     private static int wrong = 0;
     private static int asked = 0;
+    private static int sentences = 0;
+    private static int askedAhead = 0;
+    private static String sentence = "";
 
     private Check() {
+    }
+
+    /** The next answers are about this sentence of the document, told in its own words. */
+    static void says(String words) {
+        endSentence();
+        sentence = words;
+        sentences++;
+    }
+
+    /** A sentence that no answer is about is not tested. */
+    private static void endSentence() {
+        if (!sentence.isEmpty() && asked == askedAhead) {
+            wrong++;
+            System.out.println("nothing was asked about '" + sentence + "'");
+        }
+        askedAhead = asked;
     }
 
     static void due(String call, long got, long want) {
         asked++;
         if (got != want) {
             wrong++;
-            System.out.println(call + " answered " + got + ", due is " + want);
+            String about = sentence.isEmpty() ? "" : " (the document: '" + sentence + "')";
+            System.out.println(call + " answered " + got + ", due is " + want + about);
         }
     }
 
@@ -26,7 +46,9 @@ final class Check {
     }
 
     static void finish(String test) {
-        System.out.println(test + ": " + asked + " answers, " + wrong + " not as due");
+        endSentence();
+        String about = sentences == 0 ? "" : " about " + sentences + " sentences";
+        System.out.println(test + ": " + asked + " answers" + about + ", " + wrong + " not as due");
         if (wrong != 0 || asked == 0) {
             System.exit(1);
         }
