@@ -26,6 +26,7 @@ final class Check {
             System.out.println("nothing was asked about '" + sentence + "'");
         }
         askedAhead = asked;
+        sentence = "";
     }
 
     static void due(String call, long got, long want) {

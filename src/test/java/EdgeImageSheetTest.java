@@ -44,6 +44,11 @@ public final class EdgeImageSheetTest {
                 x.rain(9);
             }
         });
+        isBrought("rain() on all CUPS", x -> {
+            x.block(2, false);
+            x.rain(3);
+            x.rain(2);
+        });
         isBrought("dry()", RainOrgan::dry);
         isBrought("peg()", x -> x.peg(2, 1));
         isBrought("settings()", x -> x.settings(14));
@@ -67,8 +72,23 @@ public final class EdgeImageSheetTest {
         });
         isBrought("back() of the other IMAGE", x -> x.back(0));
 
+        Check.says("is how the organ by hand is (CUPS, HITS, ON THE WAY, SECOND, water)");
+        RainOrgan x = Check.told("roof 1 0;peg spout 0 spout 0;spout 0 each 3;");
+        x.rain(2);
+        x.keep(0);
+        x.rain(2);
+        x.back(0);
+        Check.due("two are counted: the third drop sounds", x.rain(1), 1);
+        x = Check.told("roof 1 0;peg spout 0 spout 0;spout 0 join 2 1;spout 1 slate;");
+        x.rain(2);
+        x.keep(0);
+        x.rain(0);
+        Check.due("none ON THE WAY", x.spout(1, 7), 0);
+        x.back(0);
+        Check.dues("two are ON THE WAY", new int[] {x.spout(1, 7), x.water(4), x.rain(0)}, 2, 2, 2);
+
         Check.says("BAD; STATE: there is none.");
-        RainOrgan x = new RainOrgan();
+        x = new RainOrgan();
         Check.dues("none", new int[] {x.back(0), x.back(1)}, Check.STATE, Check.STATE);
         x.keep(1);
         Check.dues("the other one", new int[] {x.back(0), x.back(1)}, Check.STATE, 0);
@@ -134,7 +154,12 @@ public final class EdgeImageSheetTest {
             }
             Check.due("no rain there", x.read(0, lane, 0, 12), -20);
             Check.due("sheet()", x.sheet(0, lane, 12), 1);
-            Check.due("all 0 now", x.read(0, lane, 0, 12), 12);
+            Check.due("all are rain now", x.read(0, lane, 0, 12), 12);
+        }
+        x = Check.told(TIP);
+        for (int lane = 0; lane < 3; lane++) {
+            x.sheet(1, lane, 12);
+            Check.dues("all are 0", new int[] {x.read(1, lane, 0, 12), x.water(1)}, 12, 0);
         }
         x.sheet(0, 0, 2);
         x.lay(0, 1, 10);

@@ -111,6 +111,11 @@ public final class EdgeShowerTest {
         Check.dues("rain, but no sound", falls(x, 1), 8, 8, 0, 0, 0, Check.NONE, 0, 1);
         x = Check.told("rain 9;");
         Check.dues("nothing there", falls(x, 0), 0, 0, 0, 0, 0, Check.NONE, 0, 0);
+        x = Check.told("roof 1 0;peg spout 0 spout 0;spout 0 tip 2;rain 0 0 0 0 0 0 0 0 0 0 0 9;rain 2;rain 0;");
+        Check.due("the last of twelve", x.falls(0, 5), 11);
+        x = Check.told("roof 1 0;peg spout 0 spout 0;spout 0 tip 2;rain 0 8 8;rain 2;rain 0;");
+        Check.dues("a longer SHOWER is forgotten", new int[] {x.falls(0, 5), x.falls(1, 5), x.falls(0, 5), x.falls(2, 5)},
+                1, 0, 1, Check.NONE);
 
         Check.says("6 SPOUTS that are BROKEN behind it (bits), 7 SPOUTS that never sound (bits). BAD.");
         String eight = "roof 1 0;peg spout 7 spout 0;" + "spout0slate;".repeat(7) + "spout0tip2;rain 2 2;rain 1;rain 1 1 1;";
@@ -186,6 +191,16 @@ public final class EdgeShowerTest {
         }
         Check.dues("all twelve", new int[] {x.far(0), x.far(1), x.far(2)}, 22, 0, 24);
 
+        // an older text's longer TUNE is forgotten, however many texts ago it was told
+        for (int texts = 0; texts < 3; texts++) {
+            RainOrgan y = Check.told("tune" + " 255".repeat(12) + ";");
+            for (int i = 0; i < texts; i++) {
+                Check.tell(y, "wear 1;");
+            }
+            Check.tell(y, TWO + "rain 1 0 0;tune 3;");
+            Check.due("behind a longer TUNE, texts between " + texts, y.far(0), 0);
+        }
+
         Check.says("How FAR a SHOWER plays from THE TUNE. BAD.");
         Check.dues("no such", new int[] {x.far(-1), x.far(3)}, Check.BAD, Check.BAD);
         x = Check.told("rain 1;");
@@ -213,6 +228,8 @@ public final class EdgeShowerTest {
         x.tells(0, 0);
         Check.dues("all RIGHT", best(x, 0), 121, 0, 1);
         Check.due("PEGS are as they were", x.settings(0), 242);
+        x = Check.told(TWO + "rain 1;tune 3;sleep 0 0 1;");
+        Check.dues("whoever is WOKEN", best(x, 0), 2, 0, 1);
         Check.says("how many are as near (2). BAD.");
         Check.dues("no such", new int[] {x.best(0, -1), x.best(0, 3), x.best(1, 0), x.best(-1, 0)},
                 Check.BAD, Check.BAD, Check.BAD, Check.BAD);
@@ -241,6 +258,9 @@ public final class EdgeShowerTest {
         x.settings(122);
         Check.dues("as few as can be, not the least", fewest(x, 0), 122, 0);
         Check.due("PEGS are as they were", x.settings(0), 122);
+        x = Check.told(TWO + "rain 1;tune 3;sleep 0 0 1;");
+        x.peg(0, 0);
+        Check.dues("whoever is WOKEN", fewest(x, 0), 2, 1);
         Check.says("how many PEGS (1). BAD.");
         Check.dues("no such", new int[] {x.fewest(0, -1), x.fewest(0, 2), x.fewest(1, 0), x.fewest(-1, 0)},
                 Check.BAD, Check.BAD, Check.BAD, Check.BAD);
@@ -307,6 +327,11 @@ public final class EdgeShowerTest {
         x = Check.told("roof 2 0;peg spout 0 spout 0;spout 0 each 1;rain 1 1;sleep 0 1 2;wear 2;sleep 1 1 1;");
         Check.due("what is BROKEN wakes nobody", x.woken(0), 1);
 
+        x = Check.told("roof 1 0;peg spout 0 spout 0;spout 0 slate;rain 1 1 0 1;sleep 0 1 1;sleep 0 3 1;");
+        Check.due("WOKEN twice, and three times", x.woken(0), 3);
+        x = Check.told("roof 1 0;peg spout 0 spout 0;spout 0 slate;rain 1 1 1 1;rain 0;sleep 0 0 1;sleep 1 1 1;sleep 2 3 1;sleep 0 11 1;");
+        Check.dues("a longer SHOWER is forgotten", new int[] {x.woken(0), x.woken(1), x.woken(0)}, 15, 0, 15);
+
         Check.says("WOKEN in a SHOWER (bits). BAD.");
         x = Check.told("rain 1;");
         Check.dues("nobody there", new int[] {x.woken(0), x.woken(1), x.woken(-1)}, 0, Check.BAD, Check.BAD);
@@ -332,6 +357,8 @@ public final class EdgeShowerTest {
         Check.dues("most rain alone", heard(x), 1, 1023);
         x = Check.told("tune 0 0 0 0 1;");
         Check.dues("never", heard(x), 0, Check.NONE);
+        x = Check.told("roof 1 0;peg spout 0 spout 0;spout 0 join 1 1;spout 1 slate;tune 1;");
+        Check.dues("what would sound behind THE TUNE is not asked", heard(x), 3, 1);
 
         Check.says("how many rows (what 0), the first as a number, SECOND by SECOND a figure to the base 4, the first SECOND highest (1; NONE).");
         x = Check.told("roof 1 0;peg spout 0 spout 0;spout 0 slate;tune 1 0 0 0 0;");

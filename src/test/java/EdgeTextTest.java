@@ -326,7 +326,9 @@ public final class EdgeTextTest {
             if (!cups.contains(name)) {
                 fails("spout 0 " + name + " 1;", 8, 2);
             }
-            for (String near : new String[] {name.substring(1), name.substring(0, name.length() - 1), name + "s", "s" + name}) {
+            String[] nears = {name.substring(1), name.substring(0, name.length() - 1), name + "s", "s" + name,
+                "x" + name.substring(1), name.substring(0, name.length() - 1) + "x"};
+            for (String near : nears) {
                 fails(near, 0, 2);
                 fails("peg " + near, 4, 2);
                 fails("spout 0 " + near, 8, 2);

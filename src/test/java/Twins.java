@@ -48,6 +48,10 @@ final class Twins {
         Check.feed(x, "wear");
         x.organ();
         x.read(0, 0, 3, 5);
+        // drops come to all cups once more, so that some are counted and on the way now
+        x.block(2, false);
+        x.rain(2);
+        x.block(2, true);
         Check.feed(x, "tune 9;");
         return x;
     }
