@@ -549,10 +549,9 @@ public final class EdgeHandTest {
         }
     }
 
-    /** As much rain as 512 calls can bring: what the water comes to in 440 sheets of twelve SECONDS. */
-    private static void mostRain() {
-        Check.says("An object is used for at most 512 calls after it has been made;");
-        RainOrgan x = Check.told("roof9 0;".repeat(4) + "peg spout0spout0;spout0join1 1;spout1tip30;");
+    /** As much rain as 512 calls can bring: 440 sheets of twelve SECONDS of most rain. */
+    private static RainOrgan drenched(String spouts) {
+        RainOrgan x = Check.told("roof9 0;".repeat(4) + "peg spout0spout0;" + spouts);
         x.sheet(0, 0, 12);
         for (int i = 0; i < 12; i++) {
             x.lay(0, i, 9);
@@ -560,9 +559,23 @@ public final class EdgeHandTest {
         for (int i = 0; i < 440; i++) {
             x.read(0, 0, 0, 12);
         }
+        return x;
+    }
+
+    private static void mostRain() {
+        Check.says("An object is used for at most 512 calls after it has been made;");
+        RainOrgan x = drenched("spout0join1 1;spout1tip30;");
         int fallen = 440 * 12 * 324;
         int came = fallen - 324;
         Check.dues("water", waters(x), 5280, fallen, came - came % 30, came % 30, 324, fallen + came / 30);
         Check.dues("HITS", all(x, 5, 2), fallen, came);
+
+        // drops that two CUPS pass round are HITS again and again, in the end more than an int can tell
+        Check.says("it never sounds from then on (all else as before).");
+        x = drenched("spout0join1 1;spout1join1 0;wear999;");
+        Check.dues("BROKEN, however many HITS", new int[] {x.spout(0, 6), x.spout(1, 6), x.count(1)}, 1, 1, 2);
+        Check.dues("it is silent", new int[] {x.rain(9), x.loud(0), x.loud(1)}, 0, 0, 0);
+        // each SPOUT sounded in three SECONDS, 1, 1 and 2 times 324
+        Check.dues("water", waters(x), 5281, 5281 * 324, 0, 0, 5281 * 324, 8 * 324);
     }
 }
