@@ -103,8 +103,18 @@ public final class FaceTest {
             isTrue(c + " has some twenty fields", fields <= 20);
             for (Method method : c.getDeclaredMethods()) {
                 isTrue(method + " takes at most seven", method.getParameterCount() <= 7);
+                isTrue(method + " has a name of its own", c == RainOrgan.class || !isOfTheFace(method.getName()));
             }
         }
+    }
+
+    private static boolean isOfTheFace(String name) {
+        for (String call : FACE) {
+            if (call.startsWith(name + "(")) {
+                return true;
+            }
+        }
+        return false;
     }
 
     /** The program without comments, texts and signs. */
